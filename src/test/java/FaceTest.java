@@ -1,14 +1,11 @@
 import java.io.IOException;
 import java.lang.reflect.Constructor;
 import java.lang.reflect.Field;
-import java.lang.reflect.Member;
 import java.lang.reflect.Method;
 import java.lang.reflect.Modifier;
 import java.nio.file.Files;
 import java.nio.file.Path;
-import java.util.ArrayList;
 import java.util.Arrays;
-import java.util.List;
 import java.util.Set;
 import java.util.TreeSet;
 import java.util.regex.Matcher;
@@ -92,10 +89,9 @@ public final class FaceTest {
         for (Class<?> c : WallStones.class.getDeclaredClasses()) {
             due(Modifier.isStatic(c.getModifiers()), c.getName() + " is static");
             int fields = 0;
-            List<Member> members = new ArrayList<>(Arrays.asList(c.getDeclaredFields()));
-            for (Member m : members) {
-                fields += Modifier.isStatic(m.getModifiers()) ? 0 : 1;
-                due(!Modifier.isStatic(m.getModifiers()) || Modifier.isFinal(m.getModifiers()), m + " is final, if static");
+            for (Field f : c.getDeclaredFields()) {
+                fields += Modifier.isStatic(f.getModifiers()) ? 0 : 1;
+                due(!Modifier.isStatic(f.getModifiers()) || Modifier.isFinal(f.getModifiers()), f + " is final, if static");
             }
             due(fields <= 20, c.getName() + " has at most twenty fields");
             for (Method m : c.getDeclaredMethods()) {

@@ -164,6 +164,13 @@ public final class PromisesTest {
         }
         x.set(6, 0);
         due("5 GIVEN of 0 stalls", x.throwing(1), 1);
+        // 100 of pull by a DROP of 10 at turn 1 is a GIVEN of 1: that is enough
+        x.set(5, 55);
+        due("5 DROP at turn 1", x.sine(-54) + x.sine(55), 10);
+        x.set(2, 620);
+        x.set(0, 5);
+        due("5 GIVEN of 1 goes on", x.throwing(1), -9);
+        due("5 and lets go", x.throwing(0), 82);
         // 333 x 12 - 3000 = 996 of pull from a start of 10, against a rub of 12 a turn, ends between turn 82 and turn 100
         x = new WallStones();
         x.set(2, 333);
@@ -371,6 +378,7 @@ public final class PromisesTest {
         }
         due("17 was not", x.prop(2, 1), 0);
         due("17 was", x.prop(2, 1), 1);
+        due("19 propped", x.cell(2, 1, 2), 1);
         due("17 only that one", x.cell(1, 1, 2), 0);
         x.hit(0, 1, 99);
         due("16 fallen", x.strength(0, 1, 5), -2);
@@ -394,6 +402,7 @@ public final class PromisesTest {
         due("18 a hit takes the prop and what it holds", x.hit(0, 3, 1), 3);
         due("19 it had strength left", x.cell(0, 3, 1), 9);
         due("19 it is propped no more", x.cell(0, 3, 2), 0);
+        due("19 it stands no more", x.cell(0, 3, 0), 0);
         due("18 fallen", x.hit(0, 3, 1), -2);
         due("18 bad before state", x.hit(0, 3, 0), -1);
         x.prop(1, 2);
@@ -426,6 +435,8 @@ public final class PromisesTest {
         for (int[] bad : new int[][] {{0, 0}, {100, 0}, {1, -1}, {1, 2}, {FAR[0], 0}}) {
             due("22 bad", x.soonest(bad[0], bad[1]), -1);
         }
+        x.wall(3, 1);
+        due("22 the least of equals", x.soonest(10, 0), 0);
         x.wall(2, 4);
         x.prop(0, 2);
         due("22 a column without a prop", x.soonest(10, 0), 1);
@@ -608,6 +619,14 @@ public final class PromisesTest {
         makeClear(x);
         x.loose(0, 0, range);
         due("30 99 at most", x.cell(0, 0, 1), 0);
+        x.set(7, 130);
+        x.strength(1, 0, 99);
+        range = x.throwing(6);
+        int force = 130 * range / 500 + 1;
+        due("30 where 501 would make another force", force == 130 * range / 501 + 1 ? 1 : 0, 0);
+        makeClear(x);
+        x.loose(1, 0, range);
+        due("30 WEIGHT times RANGE by 500, and 1", x.cell(1, 0, 1), 99 - force);
     }
 
     private static void promises31and32() {
@@ -676,6 +695,9 @@ public final class PromisesTest {
         x.wet(1, 1);
         due("33 1860 turns by 62: 30", x.lasts(30), 100);
         due("33 and no more", x.lasts(31), 0);
+        x.store(0, 61);
+        due("33 1830 turns by 62: 29", x.lasts(29), 100);
+        due("33 30 of 61 it would be, were the quarter rounded down", x.lasts(30), 0);
     }
 
     private static void ropes() {
