@@ -8,6 +8,8 @@ public final class WallStones {
     private static final int BAD_WIND = -100, BAD_SINE = -2000, BAD_SPAN = -2000, NO_SPAN = -1000, NO_RANGE = -3;
     private static final int MOST_DISTANCE = 2000, MOST_FORCE = 99, MOST_REACH = 20000, MOST_NEAR = 200;
     private static final int AIM_SLACK = 5;
+    /** More than any place, miss or number of hits there can be. */
+    private static final int BEYOND = 1000000;
     private static final int REST = 0, WOUND = 1, SLUNG = 2, CLEAR = 3;
 
     private final Machine engine;
@@ -473,7 +475,7 @@ public final class WallStones {
 
         void tuneTo(int from, int to, int distance) {
             keepTuning(NONE, NONE, NONE);
-            int nearest = Integer.MAX_VALUE;
+            int nearest = BEYOND;
             for (int sling = from; sling <= to; sling++) {
                 for (int hook = 0; hook <= MOST_HOOK; hook++) {
                     int range = reckon(sling, hook);
@@ -604,7 +606,7 @@ public final class WallStones {
         }
 
         int leastPlace(int hook) {
-            int least = Integer.MAX_VALUE;
+            int least = BEYOND;
             for (int s = 0; s < SCALES; s++) {
                 if (isLeft(s)) {
                     least = Math.min(least, scaled(s, hook) + leastDrift[s]);
@@ -614,7 +616,7 @@ public final class WallStones {
         }
 
         int greatestPlace(int hook) {
-            int greatest = Integer.MIN_VALUE;
+            int greatest = -BEYOND;
             for (int s = 0; s < SCALES; s++) {
                 if (isLeft(s)) {
                     greatest = Math.max(greatest, scaled(s, hook) + greatestDrift[s]);
@@ -643,9 +645,9 @@ public final class WallStones {
 
         int surestHook(int distance) {
             int best = NONE;
-            int least = Integer.MAX_VALUE;
+            int least = BEYOND;
             for (int hook = 0; hook < ranges.length; hook++) {
-                int miss = places(hook) ? farthestMiss(hook, distance) : Integer.MAX_VALUE;
+                int miss = places(hook) ? farthestMiss(hook, distance) : BEYOND;
                 if (miss < least) {
                     least = miss;
                     best = hook;
@@ -659,7 +661,7 @@ public final class WallStones {
     private static final class Wall {
         static final int MOST_WIDE = 8, MOST_HIGH = 6, MOST_LEVEL = 2, MOST_WEIGHT = 9, MOST_SHOTS = 4;
 
-        private static final int NEW_STRENGTH = 10, MIDDLE = 4, NEVER = 1000000;
+        private static final int NEW_STRENGTH = 10, MIDDLE = 4;
 
         private final int[] strengths;
         private final int[] standing;
@@ -815,7 +817,7 @@ public final class WallStones {
             if (!within(x, 0, columns - 1)) {
                 return BAD;
             }
-            int fewest = NEVER;
+            int fewest = BEYOND;
             for (int keep = 0; keep < 1 << rows; keep++) {
                 boolean allStand = (keep & ~standing[x]) == 0;
                 if (allStand && Integer.bitCount(keep) <= levelNow) {
@@ -832,7 +834,7 @@ public final class WallStones {
                 boolean beneathFalls = y > 0 && !holds(keep, y - 1);
                 boolean fallsUnhit = beneathFalls && !holds(propped[x], y);
                 if (holds(keep, y) && fallsUnhit) {
-                    return NEVER;
+                    return BEYOND;
                 }
                 if (holds(standing[x], y) && !holds(keep, y) && !fallsUnhit) {
                     hits += beneathFalls ? 1 : (int) up(strengths[place(x, y)], force);
@@ -1012,7 +1014,7 @@ public final class WallStones {
             return most;
         }
 
-        /** From the greatest rate down: by odd lives of a rope a greater rate may last where a lesser one does not. */
+        /** From the greatest rate down, so that the first that lasts is the answer. */
         int bestRate(int days, int dryTurns) {
             for (int r = MOST_RATE; r >= 0; r--) {
                 if (wholeDays(r, dryTurns, days) == days) {

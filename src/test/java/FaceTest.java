@@ -25,7 +25,7 @@ public final class FaceTest {
     private static final String[] FORBIDDEN = {
         "\\bthrows?\\b", "\\btry\\b", "\\bcatch\\b", "\\bsynchronized\\b", "\\bassert\\b", "->", "::", "Exact\\b",
         "\\bimport\\b", "\\bpackage\\b", "static\\s*\\{", "\\bSystem\\.(?!arraycopy)", "\\bgoto\\b", "\\bObject\\b",
-        "\\bnative\\b", "\\bvolatile\\b", "\\btransient\\b", "@", "\"",
+        "\\bnative\\b", "\\bvolatile\\b", "\\btransient\\b", "@", "\"", "_VALUE\\b",
     };
 
     private static int wrong = 0;
